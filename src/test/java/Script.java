@@ -1,0 +1,146 @@
+import java.lang.reflect.InvocationTargetException;
+import java.lang.reflect.Method;
+import java.util.ArrayList;
+import java.util.HashMap;
+import java.util.List;
+import java.util.Map;
+
+/** Runs calls that are written as in the document, "inflow(50) -> 10; fine(0) -> throws X", on one new object. */
+final class Script {
+    private static final Map<String, Method> METHODS = methods();
+    private static int passed = 0;
+    private static int failed = 0;
+
+    private Script() {
+    }
+
+    /** Each script begins with a new object. */
+    static void run(String title, String... parts) {
+        AcequiaGates ditch = new AcequiaGates();
+        boolean isFine = true;
+        for (String row : rows(String.join("; ", parts))) {
+            int arrow = row.lastIndexOf("->");
+            String call = row.substring(0, arrow).trim();
+            String due = row.substring(arrow + 2).trim();
+            String got = answer(ditch, call);
+            if (!isSame(call, got, due)) {
+                System.out.println(title + ": " + call + " answered " + got + ", due is " + due);
+                isFine = false;
+            }
+        }
+        count(isFine);
+    }
+
+    static void check(String title, boolean isFine) {
+        if (!isFine) {
+            System.out.println(title + ": not so");
+        }
+        count(isFine);
+    }
+
+    private static void count(boolean isFine) {
+        if (isFine) {
+            passed++;
+        } else {
+            failed++;
+        }
+    }
+
+    /** Prints the counts and ends the program with 1 if something failed. */
+    static void close(String test) {
+        System.out.println(test + ": " + passed + " passed, " + failed + " failed");
+        if (failed > 0 || passed == 0) {
+            System.exit(1);
+        }
+    }
+
+    private static boolean isSame(String call, String got, String due) {
+        if (call.startsWith("share") && !due.startsWith("throws") && !got.startsWith("throws")) {
+            return Float.parseFloat(got) == Float.parseFloat(due);
+        }
+        if (call.startsWith("meanThirst") && !due.startsWith("throws") && !got.startsWith("throws")) {
+            return Double.parseDouble(got) == Double.parseDouble(due);
+        }
+        return got.equals(due);
+    }
+
+    /** The answer of a call as a text, "throws" and the plain name of the class if it threw something. */
+    static String answer(AcequiaGates ditch, String call) {
+        int bracket = call.indexOf('(');
+        Method method = METHODS.get(call.substring(0, bracket));
+        String inside = call.substring(bracket + 1, call.length() - 1);
+        if (inside.startsWith("\"")) {
+            return answerToText(ditch, method, inside.substring(1, inside.length() - 1));
+        }
+        Class<?>[] types = method.getParameterTypes();
+        Object[] values = new Object[types.length];
+        String[] words = inside.split(",");
+        for (int i = 0; i < types.length; i++) {
+            values[i] = value(types[i], words[i].trim());
+        }
+        return answer(ditch, method, values);
+    }
+
+    private static String answerToText(AcequiaGates ditch, Method method, String text) {
+        String last = "";
+        for (char c : text.toCharArray()) {
+            last = answer(ditch, method, new Object[] {c});
+        }
+        return last;
+    }
+
+    private static String answer(AcequiaGates ditch, Method method, Object[] values) {
+        try {
+            return String.valueOf(method.invoke(ditch, values));
+        } catch (InvocationTargetException e) {
+            return "throws " + e.getCause().getClass().getSimpleName();
+        } catch (IllegalAccessException e) {
+            return "is no public method";
+        }
+    }
+
+    private static Object value(Class<?> type, String word) {
+        if (type == boolean.class) {
+            return Boolean.parseBoolean(word);
+        }
+        if (type == char.class) {
+            return (char) Integer.parseInt(word);
+        }
+        return Integer.parseInt(word);
+    }
+
+    /** Semicolons inside quotation marks belong to a text. */
+    private static List<String> rows(String script) {
+        List<String> rows = new ArrayList<>();
+        StringBuilder row = new StringBuilder();
+        boolean isQuoted = false;
+        for (char c : script.toCharArray()) {
+            if (c == '"') {
+                isQuoted = !isQuoted;
+            }
+            if (c == ';' && !isQuoted) {
+                addRow(rows, row);
+            } else {
+                row.append(c);
+            }
+        }
+        addRow(rows, row);
+        return rows;
+    }
+
+    private static void addRow(List<String> rows, StringBuilder row) {
+        String text = row.toString().trim();
+        if (!text.isEmpty()) {
+            rows.add(text);
+        }
+        row.setLength(0);
+    }
+
+    private static Map<String, Method> methods() {
+        Map<String, Method> methods = new HashMap<>();
+        for (Method method : AcequiaGates.class.getDeclaredMethods()) {
+            methods.put(method.getName(), method);
+        }
+        return methods;
+    }
+}
