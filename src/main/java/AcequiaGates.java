@@ -488,14 +488,22 @@ public final class AcequiaGates {
             return garden >= 0 && garden < gardenCount;
         }
 
+        /** Returns the number of the new gate, or NONE if there is no place for it. */
         int addGate(int width) {
+            if (gateCount >= MOST_GATES) {
+                return NONE;
+            }
             int number = gateCount;
             gates[number].setUp(width);
             gateCount++;
             return number;
         }
 
+        /** Returns the number of the new garden, or NONE if there is no place for it. */
         int addGarden(int gate, int beds, int shares, int coins) {
+            if (gardenCount >= MOST_GARDENS) {
+                return NONE;
+            }
             int number = gardenCount;
             gardens[number].setUp(gate, beds, shares, coins);
             gardenCount++;
@@ -655,14 +663,18 @@ public final class AcequiaGates {
         }
 
         void addComplaint(int garden, int other) {
-            complainers[complaintCount] = garden;
-            accused[complaintCount] = other;
-            complaintCount++;
+            if (complaintCount < MOST_COMPLAINTS) {
+                complainers[complaintCount] = garden;
+                accused[complaintCount] = other;
+                complaintCount++;
+            }
         }
 
         private void hearComplaints() {
             for (int i = 0; i < complaintCount; i++) {
-                hearComplaint(gardens[complainers[i]], gardens[accused[i]]);
+                if (hasGarden(complainers[i]) && hasGarden(accused[i])) {
+                    hearComplaint(gardens[complainers[i]], gardens[accused[i]]);
+                }
             }
             complaintCount = 0;
         }

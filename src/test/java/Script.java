@@ -14,11 +14,11 @@ final class Script {
     private Script() {
     }
 
-    /** Each script begins with a new object. */
+    /** Each script begins with a new object; its parts are joined by spaces, so that a call and its answer may be two. */
     static void run(String title, String... parts) {
         AcequiaGates ditch = new AcequiaGates();
         boolean isFine = true;
-        for (String row : rows(String.join("; ", parts))) {
+        for (String row : rows(String.join(" ", parts))) {
             int arrow = row.lastIndexOf("->");
             String call = row.substring(0, arrow).trim();
             String due = row.substring(arrow + 2).trim();
