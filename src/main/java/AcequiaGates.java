@@ -299,7 +299,9 @@ public final class AcequiaGates {
         for (int wait = 0; wait < HOURS_OF_DAY; wait++) {
             int hour = ditch.hour + wait;
             if (!ditch.gates[gate].isOpenIn(hour)) {
-                int taken = takenIfOpenIn(gate, hour);
+                trial.copyFrom(ditch);
+                trial.gates[gate].setHour(hour, true);
+                int taken = trial.takeInHours(gate, HOURS_OF_DAY);
                 if (taken > most) {
                     most = taken;
                     best = wait;
@@ -310,12 +312,6 @@ public final class AcequiaGates {
             throw new NoSuchElementException("the gate is open in all of these hours");
         }
         return ditch.hour + best;
-    }
-
-    private int takenIfOpenIn(int gate, int hour) {
-        trial.copyFrom(ditch);
-        trial.gates[gate].setHour(hour, true);
-        return trial.takeInHours(gate, HOURS_OF_DAY);
     }
 
     // Texts, accounts, undo and snapshot
@@ -760,7 +756,11 @@ public final class AcequiaGates {
                 case 's':
                     return orderHours(order);
                 case 'h':
-                    return orderSpan(order.first);
+                    if (!isSpan(order.first)) {
+                        return WRONG;
+                    }
+                    letHoursGoBy(order.first);
+                    return DONE;
                 case 'i':
                     return orderInflow(order.first);
                 case 'c':
@@ -777,16 +777,6 @@ public final class AcequiaGates {
                 return WRONG;
             }
             gates[order.first].setHours(order.second, order.third, order.kind == 'o');
-            return DONE;
-        }
-
-        private int orderSpan(int hours) {
-            if (!isSpan(hours)) {
-                return WRONG;
-            }
-            for (int i = 0; i < hours; i++) {
-                letHourGoBy();
-            }
             return DONE;
         }
 

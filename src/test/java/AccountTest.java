@@ -102,6 +102,16 @@ final class AccountTest {
                 "account(18) -> 0; gateOf(0, 1) -> 5; gateOf(0, 3) -> 13; gateOf(0, 5) -> 60; gardenOf(0, 5) -> 1;",
                 "complaint(0, false) -> 1; undo()", ISE, "inflow(1) -> 50; undo() -> 0; fine(1) -> 7; restore() -> 2;",
                 "account(2) -> 7; account(18) -> 0");
+        Script.run("33 restore over other gates and gardens",
+                "gate(9) -> 0; gate(3) -> 1; open(1, 3, 3, true) -> 1; open(1, 24, 25, true) -> 3;",
+                "garden(1, 2, 1, 9) -> 0; thief(0, true) -> false; pass(26) -> 6; save() -> 1; undo() -> 6; undo() -> 5;",
+                "undo() -> 4; undo() -> 3; undo() -> 2; undo() -> 1; undo() -> 0; gate(50) -> 0; garden(0, 7, 7, 77) -> 0;",
+                "garden(0, 6, 6, 66) -> 1; open(0, 0, 167, true) -> 168; pass(100) -> 846; restore() -> 1;",
+                "account(3) -> 2; account(4) -> 1; gardenOf(0, 0) -> 1; gardenOf(0, 1) -> 2; gardenOf(0, 2) -> 1;",
+                "gardenOf(0, 3) -> 9; gardenOf(0, 4) -> 20; gardenOf(0, 5) -> 1; gardenOf(0, 6) -> 6; gardenOf(0, 7) -> 10;",
+                "gardenOf(0, 8) -> 25; gateOf(0, 0) -> 9; gateOf(0, 3) -> 0; gateOf(1, 0) -> 3; gateOf(1, 3) -> 3;",
+                "gateOf(1, 5) -> 9; gateOf(1, 6) -> 3; gateOf(0, 5) -> 0; gardenOf(1, 0)", IOOBE, "account(0) -> 26;",
+                "isWell() -> true");
         Script.run("32 a snapshot in place of an earlier one, of changes alone",
                 "save() -> 0; gate(2) -> 0; garden(0, 1, 1, 1) -> 0; save() -> 1; append(\"h1\") -> 2; inflow(0) -> 10;",
                 "restore() -> 1; account(3) -> 1; account(17) -> 2; read() -> 1; restore() -> 1; account(0) -> 0;",

@@ -24,6 +24,8 @@ final class DitchTest {
         passAndLeak();
         passAndSteal();
         passAndHear();
+        fullDitch();
+        madeAnew();
         Script.close("DitchTest");
     }
 
@@ -184,6 +186,10 @@ final class DitchTest {
         Script.check("11 a leak of 50 after 45 weeks", ditch.gateOf(0, 1) == 50);
         passWeeks(ditch, 1);
         Script.check("11 a leak stays at 50", ditch.gateOf(0, 1) == 50);
+        int leaked = ditch.account(9);
+        ditch.inflow(200);
+        ditch.pass(1);
+        Script.check("11 half of 200 leaks", ditch.account(9) == leaked + 100);
     }
 
     private static void passWeeks(AcequiaGates ditch, int weeks) {
@@ -232,5 +238,31 @@ final class DitchTest {
         Script.run("11 a theft of 151 hours ago is not",
                 thiefInTheFirstWeek, "pass(102) -> 0; thief(1, false) -> true; complain(0, 1) -> 1; pass(150) -> 0;",
                 "gardenOf(1, 8) -> 101; pass(1) -> 0; account(13) -> 1; account(14) -> 1; gardenOf(0, 3) -> 22");
+    }
+
+    private static void fullDitch() {
+        Script.run("4, 5, 9, 10 and 11 with six gates, twelve gardens and eight complaints",
+                "gate(60) -> 0; gate(60) -> 1; gate(60) -> 2; gate(60) -> 3; gate(60) -> 4; gate(60) -> 5;",
+                "garden(0, 1, 1, 10) -> 0; garden(0, 1, 1, 10) -> 1; garden(1, 1, 1, 10) -> 2; garden(1, 1, 1, 10) -> 3;",
+                "garden(2, 1, 1, 10) -> 4; garden(2, 1, 1, 1) -> 5; garden(3, 1, 1, 10) -> 6; garden(3, 1, 1, 10) -> 7;",
+                "garden(4, 1, 1, 10) -> 8; garden(4, 1, 1, 10) -> 9; garden(5, 1, 1, 10) -> 10; garden(5, 1, 1, 5) -> 11;",
+                "complain(0, 1) -> 1; complain(1, 2) -> 2; complain(2, 3) -> 3; complain(3, 4) -> 4; complain(4, 5) -> 5;",
+                "complain(5, 6) -> 6; complain(11, 0) -> 7; complain(11, 10) -> 8; inflow(200) -> 10; pass(1) -> 0;",
+                "account(9) -> 55; account(12) -> 145; account(16) -> 0; repair(5) -> 0; gardenOf(10, 3) -> 5;",
+                "gardenOf(11, 3) -> 0; gardenOf(9, 3) -> 10; account(7) -> 96; save() -> 12; pass(84) -> 0;",
+                "account(13) -> 8; account(14) -> 0; account(6) -> 6; account(7) -> 90; gardenOf(5, 3) -> 0;",
+                "account(16) -> 732; isWell() -> true; undo() -> 7; account(16) -> 0; complaint(7, true) -> 10;",
+                "restore() -> 12; complaint(7, false) -> 11; thirsty(5, 1) -> 11; dryIn() -> 134");
+    }
+
+    private static void madeAnew() {
+        Script.run("4 and 5 gates and gardens behind undone ones are new",
+                "gate(3) -> 0; open(0, 3, 3, true) -> 1; open(0, 24, 25, true) -> 3; garden(0, 2, 1, 9) -> 0;",
+                "thief(0, true) -> false; pass(26) -> 6; gateOf(0, 5) -> 9; gateOf(0, 6) -> 3; gardenOf(0, 4) -> 18;",
+                "gardenOf(0, 6) -> 6; gardenOf(0, 7) -> 12; gardenOf(0, 8) -> 25; undo() -> 5; undo() -> 4; undo() -> 3;",
+                "undo() -> 2; undo() -> 1; undo() -> 0; gate(7) -> 0; gateOf(0, 0) -> 7; gateOf(0, 1) -> 5;",
+                "gateOf(0, 3) -> 0; gateOf(0, 5) -> 0; gateOf(0, 6) -> 0; garden(0, 1, 5, 3) -> 0; gardenOf(0, 1) -> 1;",
+                "gardenOf(0, 2) -> 5; gardenOf(0, 3) -> 3; gardenOf(0, 4) -> 0; gardenOf(0, 5) -> 0;",
+                "gardenOf(0, 6) -> 0; gardenOf(0, 7) -> 0; gardenOf(0, 8) -> -1");
     }
 }
