@@ -256,11 +256,11 @@ final class DitchTest {
     }
 
     private static void madeAnew() {
-        Script.run("4 and 5 gates and gardens behind undone ones are new",
-                "gate(3) -> 0; open(0, 3, 3, true) -> 1; open(0, 24, 25, true) -> 3; garden(0, 2, 1, 9) -> 0;",
+        Script.run("4 and 5 gates and gardens in place of forgotten ones are new",
+                "save() -> 0; gate(3) -> 0; open(0, 3, 3, true) -> 1; open(0, 24, 25, true) -> 3; garden(0, 2, 1, 9) -> 0;",
                 "thief(0, true) -> false; pass(26) -> 6; gateOf(0, 5) -> 9; gateOf(0, 6) -> 3; gardenOf(0, 4) -> 18;",
-                "gardenOf(0, 6) -> 6; gardenOf(0, 7) -> 12; gardenOf(0, 8) -> 25; undo() -> 5; undo() -> 4; undo() -> 3;",
-                "undo() -> 2; undo() -> 1; undo() -> 0; gate(7) -> 0; gateOf(0, 0) -> 7; gateOf(0, 1) -> 5;",
+                "gardenOf(0, 6) -> 6; gardenOf(0, 7) -> 12; gardenOf(0, 8) -> 25; restore() -> 0;",
+                "gate(7) -> 0; gateOf(0, 0) -> 7; gateOf(0, 1) -> 5;",
                 "gateOf(0, 3) -> 0; gateOf(0, 5) -> 0; gateOf(0, 6) -> 0; garden(0, 1, 5, 3) -> 0; gardenOf(0, 1) -> 1;",
                 "gardenOf(0, 2) -> 5; gardenOf(0, 3) -> 3; gardenOf(0, 4) -> 0; gardenOf(0, 5) -> 0;",
                 "gardenOf(0, 6) -> 0; gardenOf(0, 7) -> 0; gardenOf(0, 8) -> -1");
