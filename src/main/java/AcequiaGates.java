@@ -759,7 +759,10 @@ public final class AcequiaGates {
                     if (!isSpan(order.first)) {
                         return WRONG;
                     }
-                    letHoursGoBy(order.first);
+                    // Not by letHoursGoBy, which would be one call deeper.
+                    for (int i = 0; i < order.first; i++) {
+                        letHourGoBy();
+                    }
                     return DONE;
                 case 'i':
                     return orderInflow(order.first);
