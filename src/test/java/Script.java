@@ -5,30 +5,58 @@ import java.util.HashMap;
 import java.util.List;
 import java.util.Map;
 
-/** Runs calls that are written as in the document, "inflow(50) -> 10; fine(0) -> throws X", on one new object. */
+/**
+ * Runs calls that are written as in the document, "inflow(50) -> 10; fine(0) -> throws X", on one new object.
+ * "3 * pass(200) -> 0" stands for three such calls, "-> any" for any answer that is no exception, and IAE, IOOBE, UOE,
+ * NSEE, ISE and AE for the exceptions of the document.
+ */
 final class Script {
+    /** Nothing is promised about an object behind its 512th call, so that no script may look further. */
+    static final int MOST_CALLS = 512;
     private static final Map<String, Method> METHODS = methods();
+    private static final Map<String, String> SHORT_NAMES = Map.of(
+            "IAE", "throws IllegalArgumentException", "IOOBE", "throws IndexOutOfBoundsException",
+            "UOE", "throws UnsupportedOperationException", "NSEE", "throws NoSuchElementException",
+            "ISE", "throws IllegalStateException", "AE", "throws ArithmeticException");
     private static int passed = 0;
     private static int failed = 0;
 
     private Script() {
     }
 
-    /** Each script begins with a new object; its parts are joined by spaces, so that a call and its answer may be two. */
+    /** Each script begins with a new object; its parts are joined by spaces, so that a row may be in two of them. */
     static void run(String title, String... parts) {
-        AcequiaGates ditch = new AcequiaGates();
+        count(isRunFine(new AcequiaGates(), title, String.join(" ", parts)));
+    }
+
+    /** Whether each row of the script, on an object that may have been used, answers what is due. */
+    static boolean isRunFine(AcequiaGates ditch, String title, String script) {
         boolean isFine = true;
-        for (String row : rows(String.join(" ", parts))) {
+        int calls = 0;
+        for (String row : rows(script)) {
             int arrow = row.lastIndexOf("->");
-            String call = row.substring(0, arrow).trim();
             String due = row.substring(arrow + 2).trim();
-            String got = answer(ditch, call);
-            if (!isSame(call, got, due)) {
-                System.out.println(title + ": " + call + " answered " + got + ", due is " + due);
-                isFine = false;
+            String[] counted = row.substring(0, arrow).trim().split(" \\* ");
+            String call = counted[counted.length - 1];
+            int times = counted.length == 1 ? 1 : Integer.parseInt(counted[0]);
+            for (int i = 0; i < times; i++) {
+                String got = answer(ditch, call);
+                if (!isSame(call, got, SHORT_NAMES.getOrDefault(due, due))) {
+                    System.out.println(title + ": " + call + " answered " + got + ", due is " + due);
+                    isFine = false;
+                }
             }
+            calls += times * callsOf(call);
         }
-        count(isFine);
+        if (calls > MOST_CALLS) {
+            System.out.println(title + ": " + calls + " calls are too many");
+            isFine = false;
+        }
+        return isFine;
+    }
+
+    private static int callsOf(String call) {
+        return call.contains("\"") ? call.lastIndexOf('"') - call.indexOf('"') - 1 : 1;
     }
 
     static void check(String title, boolean isFine) {
@@ -55,6 +83,9 @@ final class Script {
     }
 
     private static boolean isSame(String call, String got, String due) {
+        if (due.equals("any")) {
+            return !got.startsWith("throws");
+        }
         if (call.startsWith("share") && !due.startsWith("throws") && !got.startsWith("throws")) {
             return Float.parseFloat(got) == Float.parseFloat(due);
         }
