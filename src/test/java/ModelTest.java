@@ -5,6 +5,7 @@ import java.util.Random;
 /** Runs of 512 calls, the same in each run of the test, compared with the model call by call. */
 final class ModelTest {
     private static final int RUNS = 400;
+    private static final int LONG_RUNS = 100;
     private static final int CALLS = 512;
     private static final int[] EDGES = {-1, 0, 1, 6, 7, 12, 18, 19, 24, 99, 100, 167, 168, 200, 201, Integer.MAX_VALUE,
         Integer.MIN_VALUE};
@@ -19,6 +20,9 @@ final class ModelTest {
         "save 2", "restore 1", "TEXT 4"
     };
 
+    /** Made in long runs besides, so that they go on for a year and more and leaks grow to the end. */
+    private static final String LONG_PASS = "pass 60 100 200";
+
     private final Random random;
     private final AcequiaGates ditch = new AcequiaGates();
     private final Model model = new Model();
@@ -26,21 +30,28 @@ final class ModelTest {
     private final String[] kinds;
     private boolean isFine = true;
 
-    private ModelTest(int seed) {
+    private ModelTest(int seed, boolean isLong) {
         random = new Random(seed);
         List<String> weighted = new ArrayList<>();
         for (String kind : CALL_KINDS) {
-            int times = kind.startsWith("TEXT") ? 4 : Integer.parseInt(kind.split(" ")[1]);
-            for (int i = 0; i < times; i++) {
-                weighted.add(kind);
-            }
+            addWeighted(weighted, kind);
+        }
+        if (isLong) {
+            addWeighted(weighted, LONG_PASS);
         }
         kinds = weighted.toArray(new String[0]);
     }
 
+    private static void addWeighted(List<String> weighted, String kind) {
+        int times = Integer.parseInt(kind.split(" ")[1]);
+        for (int i = 0; i < times; i++) {
+            weighted.add(kind);
+        }
+    }
+
     public static void main(String[] args) {
-        for (int seed = 0; seed < RUNS; seed++) {
-            ModelTest test = new ModelTest(seed);
+        for (int seed = 0; seed < RUNS + LONG_RUNS; seed++) {
+            ModelTest test = new ModelTest(seed, seed >= RUNS);
             test.run();
             Script.check("run " + seed + ": " + String.join("; ", test.log), test.isFine);
         }
