@@ -18,8 +18,13 @@ final class Script {
             "IAE", "throws IllegalArgumentException", "IOOBE", "throws IndexOutOfBoundsException",
             "UOE", "throws UnsupportedOperationException", "NSEE", "throws NoSuchElementException",
             "ISE", "throws IllegalStateException", "AE", "throws ArithmeticException");
+    private static final long MOST_MILLISECONDS = 300_000;
     private static int passed = 0;
     private static int failed = 0;
+
+    static {
+        watch();
+    }
 
     private Script() {
     }
@@ -57,6 +62,21 @@ final class Script {
 
     private static int callsOf(String call) {
         return call.contains("\"") ? call.lastIndexOf('"') - call.indexOf('"') - 1 : 1;
+    }
+
+    /** A call that does not end must fail its test, and not keep the others waiting. */
+    private static void watch() {
+        Thread watch = new Thread(() -> {
+            try {
+                Thread.sleep(MOST_MILLISECONDS);
+                System.out.println("a call does not end");
+            } catch (InterruptedException e) {
+                System.out.println("the watch was interrupted");
+            }
+            Runtime.getRuntime().halt(1);
+        });
+        watch.setDaemon(true);
+        watch.start();
     }
 
     static void check(String title, boolean isFine) {
