@@ -243,7 +243,7 @@ final class TextEdges {
             }
         }
         Edge.check("25 errorPosition", "Returns the error position of the text of the latest call of read",
-                "every text of up to five signs; there are wrong ones: " + wrong, wrong == 0);
+                "all texts of up to five of nine signs; wrong ones: " + wrong, wrong == 0);
     }
 
     private static boolean isPlaceRight(String text) {
