@@ -231,14 +231,14 @@ public final class AcequiaGates {
         if (place < 0 || place >= ditch.putInOrder(gate)) {
             throw new NoSuchElementException("no such place");
         }
-        return ditch.order[place];
+        return ditch.order[place].number;
     }
 
     public int placeAgain(int garden) throws IndexOutOfBoundsException {
         if (!ditch.hasGarden(garden)) {
             throw new IndexOutOfBoundsException("no such garden");
         }
-        return ditch.countAhead(garden);
+        return ditch.countAheadOf(ditch.gardens[garden]);
     }
 
     public int complaint(int place, boolean isOther) throws NoSuchElementException {
@@ -435,7 +435,7 @@ public final class AcequiaGates {
         final int[] complainers = new int[MOST_COMPLAINTS];
         final int[] accused = new int[MOST_COMPLAINTS];
         /** A row to put the gardens of one gate in order; nothing is kept in it between two calls. */
-        final int[] order = new int[MOST_GARDENS];
+        final Garden[] order = new Garden[MOST_GARDENS];
         final Books books = new Books();
         int gateCount;
         int gardenCount;
@@ -450,7 +450,8 @@ public final class AcequiaGates {
                 gates[i] = new Gate();
             }
             for (int i = 0; i < MOST_GARDENS; i++) {
-                gardens[i] = new Garden();
+                gardens[i] = new Garden(i);
+                order[i] = gardens[i];
             }
         }
 
@@ -580,7 +581,7 @@ public final class AcequiaGates {
             int left = taken;
             int count = putInOrder(gate);
             for (int i = 0; i < count; i++) {
-                Garden garden = gardens[order[i]];
+                Garden garden = order[i];
                 int drink = garden.drinkOf(left);
                 garden.drank += drink;
                 books.drunk += drink;
@@ -609,39 +610,28 @@ public final class AcequiaGates {
         int putInOrder(int gate) {
             int count = 0;
             for (int i = 0; i < gardenCount; i++) {
-                if (gardens[i].gate == gate) {
+                Garden garden = gardens[i];
+                if (garden.gate == gate) {
                     int place = count;
-                    while (place > 0 && comesAhead(i, order[place - 1])) {
+                    while (place > 0 && garden.comesAheadOf(order[place - 1])) {
                         order[place] = order[place - 1];
                         place--;
                     }
-                    order[place] = i;
+                    order[place] = garden;
                     count++;
                 }
             }
             return count;
         }
 
-        int countAhead(int garden) {
+        int countAheadOf(Garden garden) {
             int count = 0;
             for (int i = 0; i < gardenCount; i++) {
-                if (gardens[i].gate == gardens[garden].gate && comesAhead(i, garden)) {
+                if (gardens[i].gate == garden.gate && gardens[i].comesAheadOf(garden)) {
                     count++;
                 }
             }
             return count;
-        }
-
-        private boolean comesAhead(int garden, int other) {
-            Garden one = gardens[garden];
-            Garden two = gardens[other];
-            if (one.thirst != two.thirst) {
-                return one.thirst > two.thirst;
-            }
-            if (one.shares != two.shares) {
-                return one.shares > two.shares;
-            }
-            return garden < other;
         }
 
         // Complaints
@@ -982,6 +972,7 @@ public final class AcequiaGates {
     }
 
     private static final class Garden {
+        final int number;
         int gate;
         int beds;
         int shares;
@@ -991,6 +982,10 @@ public final class AcequiaGates {
         int drank;
         int stole;
         int latestTheft;
+
+        Garden(int number) {
+            this.number = number;
+        }
 
         void setUp(int newGate, int newBeds, int newShares, int newCoins) {
             gate = newGate;
@@ -1014,6 +1009,16 @@ public final class AcequiaGates {
             drank = other.drank;
             stole = other.stole;
             latestTheft = other.latestTheft;
+        }
+
+        boolean comesAheadOf(Garden other) {
+            if (thirst != other.thirst) {
+                return thirst > other.thirst;
+            }
+            if (shares != other.shares) {
+                return shares > other.shares;
+            }
+            return number < other.number;
         }
 
         /** Drinks as much of the water as it may and there is, and returns how much. */

@@ -11,6 +11,7 @@ import java.util.Map;
 import java.util.Set;
 import java.util.regex.Matcher;
 import java.util.regex.Pattern;
+import java.util.stream.Collectors;
 
 /**
  * The sentences of ../shared/DOC.md, each under the place where it stands ("Gates", "5 garden"), and which of them
@@ -21,6 +22,7 @@ final class Doc {
     private static final Pattern PROMISE = Pattern.compile("## Promise (\\d+): (.*)");
     /** The first words of a paragraph of the terms, as "Time." or "An hour goes by like this.". */
     private static final Pattern TERM = Pattern.compile("([A-Z][A-Za-z, ]{2,25})\\. (.*)");
+    private static final Pattern FACE = Pattern.compile("(?s)```java(.*?)```");
     private static final Pattern EXAMPLE = Pattern.compile("[A-Z][^:(]*: (.*)\\.");
 
     private static final Map<String, List<String>> SENTENCES = new LinkedHashMap<>();
@@ -75,6 +77,13 @@ final class Doc {
     /** The examples as scripts, in the document's own words. */
     static List<String> examples() {
         return EXAMPLES;
+    }
+
+    /** The lines of the public face that tell a constructor or a method. */
+    static List<String> face() {
+        Matcher face = FACE.matcher(text());
+        return !face.find() ? List.of() : face.group(1).lines().map(String::trim)
+                .filter(line -> line.startsWith("public ") && line.endsWith(";")).collect(Collectors.toList());
     }
 
     private static String key(String place, String sentence) {

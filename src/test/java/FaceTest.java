@@ -53,11 +53,26 @@ final class FaceTest {
         Collections.sort(due);
         Collections.sort(got);
         Script.check("the methods are those of the document: " + got, got.equals(due));
+        Script.check("the document prints the same: " + Doc.face(), !Doc.isHere() || printed().equals(due));
         Script.check("no private method has the name of a public one", Collections.disjoint(hidden, names));
         for (Field field : AcequiaGates.class.getDeclaredFields()) {
             Script.check("the field is private: " + field.getName(), Modifier.isPrivate(field.getModifiers()));
         }
         Script.close("FaceTest");
+    }
+
+    /** The methods of the document's print, written as this test writes them. */
+    private static List<String> printed() {
+        List<String> printed = new ArrayList<>();
+        for (String line : Doc.face()) {
+            if (!line.equals("public AcequiaGates();")) {
+                String[] parts = line.substring("public ".length(), line.length() - 1).split(" throws ");
+                String types = parts[0].replaceAll(" \\w+(?=[,)])", "").replace(", ", ",");
+                printed.add(parts.length == 1 ? types : types + " " + parts[1].replace(",", ""));
+            }
+        }
+        Collections.sort(printed);
+        return printed;
     }
 
     private static String told(Method method) {

@@ -2,13 +2,19 @@ import java.io.IOException;
 import java.nio.charset.StandardCharsets;
 import java.nio.file.Files;
 import java.nio.file.Path;
+import java.util.Collections;
 import java.util.List;
+import java.util.Set;
+import java.util.TreeSet;
 import java.util.regex.Pattern;
 
-/** The rules of ../shared/LANGUAGE.md that can be seen in the source line by line; the program is run from the root. */
+/** The rules of ../shared/LANGUAGE.md that can be seen in the source; the program is run from the root. */
 final class LanguageTest {
     private static final Path SOURCE = Path.of("src/main/java/AcequiaGates.java");
-    private static final int MOST_LINES_OF_A_METHOD = 60;
+    /** What the class needs of the library that the language allows. */
+    private static final Set<String> LIBRARY = Set.of("Math.min", "Math.floorMod", "Integer.bitCount", "Object.<init>");
+    private static final String EXCEPTION = "(IllegalState|IllegalArgument|IndexOutOfBounds|Arithmetic|"
+            + "UnsupportedOperation|NoSuchElement)Exception";
     private static final String[] RULED_OUT = {
         "^package\\b", "\\btry\\b", "\\bcatch\\b", "\\bfinally\\b", "\\bsynchronized\\b", "\\bassert\\b", "->", "::",
         "\\bSystem\\b", "\\w+Exact\\(", "\\bObject\\b", "\\bhashCode\\b", "\\btoString\\b", "\\bstatic (?!final\\b|abstract\\b)"
@@ -26,8 +32,7 @@ final class LanguageTest {
         }
         Script.check("one import alone", lines.stream().filter(line -> line.startsWith("import ")).count() == 1
                 && lines.contains("import java.util.NoSuchElementException;"));
-        Script.check("at most twelve classes", lines.stream().filter(line -> line.contains(" class ")).count() <= 12);
-        Script.check("methods are short", longestMethod(lines) <= MOST_LINES_OF_A_METHOD);
+        structure(SourceTree.of(SOURCE));
         Script.close("LanguageTest");
     }
 
@@ -36,20 +41,21 @@ final class LanguageTest {
         return line.replaceAll("^\\s*(/\\*\\*|\\*|//).*$", "");
     }
 
-    private static int longestMethod(List<String> lines) {
-        int longest = 0;
-        for (int i = 0; i < lines.size(); i++) {
-            String indent = lines.get(i).replaceAll("\\S.*", "");
-            boolean begins = !lines.get(i).contains(" class ") && lines.get(i).endsWith("{")
-                    && (indent.length() == 4 || indent.length() == 8);
-            if (begins) {
-                int end = i;
-                while (!lines.get(end).equals(indent + "}") && end < lines.size() - 1) {
-                    end++;
-                }
-                longest = Math.max(longest, end - i + 1);
-            }
+    private static void structure(SourceTree tree) {
+        Script.check("at most twelve classes", tree.fields.size() <= 12);
+        Script.check("classes inside are static and not shared: " + tree.sharedClasses, tree.sharedClasses.isEmpty());
+        Script.check("at most twenty fields: " + tree.fields, Collections.max(tree.fields.values()) <= 20);
+        Script.check("methods are short: " + tree.lines, Collections.max(tree.lines.values()) <= 60);
+        Script.check("at most seven parameters", Collections.max(tree.parameters.values()) <= 7);
+        Script.check("calls go at most eight deep: " + tree.longestChain(), tree.longestChain().size() <= 8);
+        Script.check("no recursion: " + tree.longestChain(), !tree.isRecursive());
+        Set<String> library = new TreeSet<>(tree.library);
+        library.removeAll(LIBRARY);
+        library.removeIf(name -> name.matches(EXCEPTION + "\\.<init>"));
+        Script.check("no other library than is used now: " + library, library.isEmpty());
+        for (String thrown : tree.thrown) {
+            Script.check("thrown as it may be: " + thrown, !thrown.contains("<init>")
+                    && thrown.matches(".*: new " + EXCEPTION + "\\((\"[^\"]*\")?\\)"));
         }
-        return longest;
     }
 }

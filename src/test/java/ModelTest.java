@@ -6,7 +6,7 @@ import java.util.Random;
 final class ModelTest {
     private static final int RUNS = 400;
     private static final int LONG_RUNS = 100;
-    private static final int CALLS = 512;
+    private static final int CALLS = Script.MOST_CALLS;
     private static final int[] EDGES = {-1, 0, 1, 6, 7, 12, 18, 19, 24, 99, 100, 167, 168, 200, 201, Integer.MAX_VALUE,
         Integer.MIN_VALUE};
 
@@ -80,7 +80,7 @@ final class ModelTest {
         if (random.nextInt(6) == 0) {
             text.setLength(random.nextInt(text.length()));
         }
-        for (int i = 0; i < text.length() && log.size() < CALLS; i++) {
+        for (int i = 0; i < text.length(); i++) {
             give("append", new int[] {text.charAt(i)});
         }
         give("read", new int[0]);
@@ -124,7 +124,11 @@ final class ModelTest {
         return name.equals("thief") || name.equals("complaint") || name.equals("open") && place == 3;
     }
 
+    /** Nothing is promised about what an object answers behind its last call, so that nothing is asked then. */
     private void give(String name, int[] row) {
+        if (log.size() >= CALLS || !isFine) {
+            return;
+        }
         StringBuilder call = new StringBuilder(name).append('(');
         for (int i = 0; i < row.length; i++) {
             boolean isTruth = i > 0 && isTruth(name, i) || name.equals("refusal");

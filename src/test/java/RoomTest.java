@@ -2,7 +2,10 @@ import java.lang.management.ManagementFactory;
 
 /** The room of a run: beyond the constructor, a call makes nothing that grows with what it looks at. */
 final class RoomTest {
-    private static final int CALLS = 512;
+    /** With the calls that fill the ditch these are not more than 512. */
+    private static final int ROUNDS = 59;
+    private static final int CALLS_OF_A_ROUND = 8;
+    private static final int CALLS_THAT_FILL = 37;
     private static final long MOST_BYTES_OF_AN_OBJECT = 60_000;
     private static final long MOST_BYTES_OF_ALL_CALLS = 10_000;
 
@@ -18,7 +21,9 @@ final class RoomTest {
         Script.check("an object takes " + made + " bytes", made < MOST_BYTES_OF_AN_OBJECT);
         Script.check("and is used", ditch.isWell());
         long run = bytesOfRun();
-        Script.check("512 of the dearest calls make " + run + " bytes", run < MOST_BYTES_OF_ALL_CALLS);
+        int calls = ROUNDS * CALLS_OF_A_ROUND;
+        Script.check(calls + " of the dearest calls make " + run + " bytes", run < MOST_BYTES_OF_ALL_CALLS);
+        Script.check("no more calls than are promised", CALLS_THAT_FILL + calls <= Script.MOST_CALLS);
         Script.close("RoomTest");
     }
 
@@ -43,7 +48,7 @@ final class RoomTest {
     private static long bytesOfRun() {
         AcequiaGates ditch = fullDitch();
         long before = bytes();
-        for (int i = 0; i < CALLS / 8; i++) {
+        for (int i = 0; i < ROUNDS; i++) {
             ditch.pass(10);
             ditch.append('h');
             ditch.append('1');
